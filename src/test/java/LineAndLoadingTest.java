@@ -359,6 +359,10 @@ public final class LineAndLoadingTest {
         checks.same("one move", z.repair(0), 1);
         checks.same("the lowest gets", z.bits(0, 4, 0), 2);
         checks.same("the highest does not", z.bits(0, 11, 0), 1);
+        z.setNoise(0, 0, 10);
+        checks.same("not efficient for tone 0", z.isEfficient(0), false);
+        checks.same("120 of 4, 100 of 15, 100 of 14", z.repair(0), 3);
+        checks.same("tone 0 gets them: 20, 40, 80", z.bits(0, 0, 0), 4);
     }
 
     private void promise8RepairDropsTheTalk() {
@@ -405,6 +409,14 @@ public final class LineAndLoadingTest {
         x.setNoise(0, 0, 101);
         checks.same("201 for the last", x.balance(5), 2);
         checks.same("201 for the last", x.totalEnergy(0), 1600);
+        for (int tone = 0; tone < 16; tone++) {
+            x.setCoupling(0, tone, 0);
+            x.setCoupling(1, tone, 1000);
+        }
+        x.setNoise(0, 0, 100);
+        checks.same("pair 1 is loaded beside the new pair 0", x.balance(1), 1);
+        checks.same("1700 for pair 0", x.rate(0), 16);
+        checks.same("200 a bit", x.rate(1), 8);
         checks.refused("rounds 0", x, ARGUMENT, () -> x.balance(0));
         checks.refused("rounds 21", x, ARGUMENT, () -> x.balance(21));
         checks.refused("rounds -1", x, ARGUMENT, () -> x.balance(-1));

@@ -11,9 +11,11 @@ public final class StateTest {
         StateTest test = new StateTest();
         test.promise27Undo();
         test.promise27EveryUndoableCall();
+        test.promise27TalkOfThen();
         test.promise27ThrowingCallsSaveNothing();
         test.promise28DigestOfANewObject();
         test.promise28DigestAmidSwaps();
+        test.promise28DigestBesideEachOther();
         test.checks.end();
     }
 
@@ -94,6 +96,35 @@ public final class StateTest {
         checks.same("the next number is back", x.request(0, 1, 6), 1);
     }
 
+    /** An undo goes back behind further requests, with the messages and tones of then. */
+    private void promise27TalkOfThen() {
+        ToneLoader x = new ToneLoader();
+        x.loadBits(0, 20);
+        x.request(0, 0, 5);
+        x.deliver(0, 0, false);
+        x.deliver(0, 1, false);
+        x.run(8);
+        x.request(0, 2, 7);
+        x.deliver(0, 0, false);
+        long before = x.digest();
+        x.deliver(0, 1, false);
+        x.run(8);
+        x.request(0, 3, 9);
+        x.deliver(0, 0, false);
+        for (int left = 3; left >= 0; left--) {
+            checks.same("undo", x.undo(), left);
+        }
+        checks.same("the digest but for the saved states", x.digest(), before - 4);
+        checks.same("the answer of then", x.deliver(0, 1, false), 16);
+        x.run(8);
+        checks.same("the receiver's tones of then", x.bits(0, 2, 0), 1);
+        checks.same("the receiver's tones of then", x.bits(0, 7, 0), 2);
+        checks.same("the sender's tones of then", x.bits(0, 2, 1), 1);
+        checks.same("the sender's tones of then", x.bits(0, 7, 1), 2);
+        checks.same("in step", x.inStep(0), true);
+        checks.same("the number of then", x.request(0, 3, 9), 2);
+    }
+
     private void promise27ThrowingCallsSaveNothing() {
         ToneLoader x = new ToneLoader();
         x.setNoise(0, 0, 5);
@@ -155,5 +186,33 @@ public final class StateTest {
         int noted = values.indexOf(8L);
         values.set(noted + 2, 0L);
         checks.same("digest with a noted frame", x.digest(), hash(values));
+    }
+
+    /** Each pair is disturbed by the other, and the second request of pair 1 is open. */
+    private void promise28DigestBesideEachOther() {
+        ToneLoader x = new ToneLoader();
+        x.loadBits(0, 16);
+        x.loadBits(1, 16);
+        x.request(1, 6, 7);
+        x.deliver(1, 0, false);
+        x.deliver(1, 1, false);
+        x.run(8);
+        x.setCoupling(0, 2, 1000);
+        x.setCoupling(1, 3, 500);
+        x.request(1, 7, 6);
+        List<Long> values = new ArrayList<>();
+        add(values, 8, 1000000);
+        for (int tone = 0; tone < 16; tone++) {
+            add(values, 100, tone == 2 ? 1000 : 0, 12, 1, 1, 100, tone == 2 ? 50 : 100);
+        }
+        add(values, 1, 0, 0, 0, 0, 1000000);
+        for (int tone = 0; tone < 16; tone++) {
+            long bits = tone == 6 ? 0 : tone == 7 ? 2 : 1;
+            long energy = bits == 2 ? 300 : 100 * bits;
+            long margin = tone == 6 ? -1 : tone == 3 ? 66 : 100;
+            add(values, 100, tone == 3 ? 500 : 0, 12, bits, bits, energy, margin);
+        }
+        add(values, 0, 1, 1, 7, 6, -1, 1, 0, 0, 4);
+        checks.same("digest", x.digest(), hash(values));
     }
 }

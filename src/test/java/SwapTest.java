@@ -129,6 +129,8 @@ public final class SwapTest {
         checks.same("the smallest step", x.suggest(0), 2 * 16 + 7);
         x.setLimit(0, 7, 1);
         checks.same("below its limit", x.suggest(0), 2 * 16 + 4);
+        x.setNoise(0, 0, 10);
+        checks.same("to tone 0", x.suggest(0), 2 * 16);
         ToneLoader y = new ToneLoader();
         checks.same("no bits", y.suggest(0), -1);
         for (int tone = 1; tone < 16; tone++) {
@@ -281,7 +283,13 @@ public final class SwapTest {
         checks.same("1 bit at 100 + 400", x.energy(1, 0), 500);
         checks.same("2 bits at 100 + 600", x.energy(1, 5), 2100);
         checks.same("other tones stay", x.energy(0, 1), 300);
+        checks.same("2 bits after a swap back, at 100 + 500", swapBack(x), 3 * 600);
         checks.same("other tones stay", x.energy(1, 1), 300);
+    }
+
+    private static long swapBack(ToneLoader x) {
+        swap(x, 0, 5, 0);
+        return x.energy(0, 0);
     }
 
     /** A receiver that learns of the frame after it has passed swaps in the next frame. */
