@@ -109,6 +109,12 @@ public final class FrameEdgesTest {
         x.run(1000);
         checkSwapped("frame 2008", x, 1, true);
         checkSwapped("the receiver", x, 0, false);
+        ToneLoader y = awaiting(0);
+        y.run(8);
+        y.request(0, 1, 6);
+        y.run(100);
+        checkSwapped("not again for a request that has not come", y, 1, true);
+        checks.same("in step", y.inStep(0), true);
     }
 
     /** "if it has noted the frame f or an earlier one" */

@@ -13,6 +13,7 @@ public final class LoadingEdgesTest {
     public static void main(String[] args) {
         LoadingEdgesTest test = new LoadingEdgesTest();
         test.newObject();
+        test.settingsLeaveTheTable();
         test.limitAsManyAsBits();
         test.limitRefusedBelowEitherEnd();
         test.limitRefusedAtTwelveBits();
@@ -20,6 +21,7 @@ public final class LoadingEdgesTest {
         test.greatestEnergyOfARepair();
         test.greatestEnergyOfASwap();
         test.greatestSumOfEnergies();
+        test.needsHaveNoGreatest();
         test.budgetJustReached();
         test.budgetOfEveryBit();
         test.budgetZero();
@@ -58,6 +60,27 @@ public final class LoadingEdgesTest {
         }
         edges.refused("a new object has no saved state", ToneLoader::new, Edges.STATE,
                 x -> x.undo());
+    }
+
+    /** "The table stays.", whatever is set; and so do the messages and the open request. */
+    private void settingsLeaveTheTable() {
+        Edges.Call[] settings = {x -> x.setNoise(0, 5, 1), x -> x.setNoise(0, 5, 10000),
+            x -> x.setCoupling(0, 5, 1000), x -> x.setLimit(0, 5, 2), x -> x.setLimit(0, 15, 12),
+            x -> x.setBudget(0, 0), x -> x.setBudget(0, 1000000000)};
+        for (Edges.Call setting : settings) {
+            ToneLoader x = Scenes.bothOnWay();
+            List<Object> other = Edges.pairValues(x, 1);
+            setting.on(x);
+            for (int tone = 0; tone < 16; tone++) {
+                checks.same("the receiver", x.bits(0, tone, 0), tone < 4 ? 2 : 1);
+                checks.same("the sender", x.bits(0, tone, 1), tone < 4 ? 2 : 1);
+                checks.same("the energy", x.energy(0, tone), tone < 4 ? 300 : 100);
+            }
+            checks.same("the other pair", Edges.pairValues(x, 1), other);
+            edges.answers("the answer", x, y -> y.deliver(0, 1, false), 8);
+            edges.answers("the message and the agreement", x, y -> y.deliver(0, 0, false), 8);
+            edges.answers("the request", x, y -> y.resend(0), 0);
+        }
     }
 
     /** Promise 4: "if limit is less than the number of bits of the tone"; as many are taken. */
@@ -185,6 +208,33 @@ public final class LoadingEdgesTest {
         checks.same("a margin of 0 is a margin", x.leastMargin(1), 0);
         checks.same("full tones leave nothing to move", x.repair(1), 0);
         checks.same("no budget is enough", x.loadRate(1), 0);
+    }
+
+    /** Only energies have a greatest value: loading and repair weigh the needs as they are. */
+    private void needsHaveNoGreatest() {
+        ToneLoader x = Scenes.toneZeroAlone();
+        for (int tone = 0; tone < 2; tone++) {
+            for (int pair = 0; pair < 2; pair++) {
+                x.setLimit(pair, tone, 12);
+                x.setNoise(pair, tone, 10000);
+                x.setCoupling(pair, tone, 1000);
+            }
+        }
+        for (int i = 0; i < 4; i++) {
+            x.loadBits(i % 2, 24);
+        }
+        checks.same("both at the greatest energy", x.totalEnergy(1), 2 * MOST_ENERGY);
+        x.loadBits(0, 5);
+        checks.same("in turn", x.bits(0, 0, 0), 3);
+        checks.same("in turn", x.bits(0, 1, 0), 2);
+        checks.same("all of them are too dear", x.totalEnergy(0), 2 * MOST_ENERGY);
+        x.setLimit(0, 1, 2);
+        x.loadBits(0, 14);
+        x.setLimit(0, 1, 12);
+        checks.same("12 bits and 2", x.isEfficient(0), false);
+        checks.same("to 7 and 7", x.repair(0), 5);
+        checks.same("to 7 and 7", x.bits(0, 0, 0), 7);
+        checks.same("at the greatest energy all the time", x.totalEnergy(0), 2 * MOST_ENERGY);
     }
 
     /** "as long as the sum of the needs of all tones of the pair is at most the budget then" */
